@@ -1,24 +1,30 @@
 /** What the tests share: answers held against those that are due, and gardens made from texts. */
 final class Check {
+    private static final int MOST_PRINTED = 40;
     private static int asked = 0;
     private static int wrong = 0;
 
     private Check() {
     }
 
+    private static void isWrong(String what) {
+        wrong++;
+        if (wrong <= MOST_PRINTED) {
+            System.out.println(what);
+        }
+    }
+
     static void due(String call, long got, long want) {
         asked++;
         if (got != want) {
-            wrong++;
-            System.out.println(call + " answered " + got + ", due is " + want);
+            isWrong(call + " answered " + got + ", due is " + want);
         }
     }
 
     static void holds(String what, boolean isSo) {
         asked++;
         if (!isSo) {
-            wrong++;
-            System.out.println("not so: " + what);
+            isWrong("not so: " + what);
         }
     }
 
@@ -69,8 +75,7 @@ final class Check {
     static void same(String what, String got, String want) {
         asked++;
         if (!got.equals(want)) {
-            wrong++;
-            System.out.println(what + ": told " + got + ", due is " + want);
+            isWrong(what + ": told " + got + ", due is " + want);
         }
     }
 
