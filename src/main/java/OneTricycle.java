@@ -12,7 +12,7 @@ public final class OneTricycle {
     private static final int HOLDS_ON = 0, GIVES = 1;
     private static final long SEED_TIMES = 6364136223846793005L, SEED_MORE = 1442695040888963407L;
     private static final int[] ORDERS = {1, 1, 2, 6, 24, 120};
-    private static final int[] HUNDREDS = {1, 100, 10_000, 1_000_000};
+    private static final int[] HUNDREDS = {1, 100, 10000, 1000000};
 
     private final Text text = new Text();
     private final Kids kids = new Kids();
@@ -801,7 +801,8 @@ public final class OneTricycle {
         private void putOrTakeAway() {
             things = things == 1 ? 2 : 1;
             if (Integer.bitCount(riders) > things) {
-                leaveRiding(Integer.lowestOneBit(riders));
+                int leastRider = riders & -riders;
+                leaveRiding(leastRider);
             }
         }
 
@@ -848,15 +849,15 @@ public final class OneTricycle {
         }
 
         private int gap() {
-            int most = 0;
-            int least = Integer.MAX_VALUE;
+            int most = NONE;
+            int least = NONE;
             for (int child = 0; child < MOST_CHILDREN; child++) {
                 if (has(there, child)) {
                     most = Math.max(most, ridden[child]);
-                    least = Math.min(least, ridden[child]);
+                    least = least == NONE ? ridden[child] : Math.min(least, ridden[child]);
                 }
             }
-            return there == 0 ? 0 : most - least;
+            return most - least;
         }
 
         private int neverRidden() {

@@ -87,6 +87,8 @@ public final class AheadTest {
         Check.due("the LINE, 10 minutes", x.bestLength(2, 10), 5);
         Check.due("the GAP by 4", x.by(2, 4, 10, 2), 2);
         Check.due("the GAP by 5", x.by(2, 5, 10, 2), 0);
+        // 0 rides its WISH of 9 down while that of 1 grows to 9, then the other way round
+        Check.due("the greatest LENGTH", Check.garden("T311C931C063").bestLength(2, 18), 9);
         Check.due("1 minute", x.bestLength(2, 1), 1);
         Check.due("30 minutes", x.bestLength(3, 30), leastGap(x, 3, 30));
         int[][] wrong = {{-1, 1}, {4, 1}, {0, 0}, {0, 31}, {0, -1}, {0, Integer.MAX_VALUE}};

@@ -153,9 +153,9 @@ public final class GardenTest {
         for (int k = 0; k < 4; k++) {
             x.minute();
         }
-        x.push(0);
         x.push(1);
         x.put();
+        Check.holds("two RIDE", Integer.bitCount(x.minute()) == 2);
         x.keep(0);
         x.keep(1);
         x.see(2, 20);

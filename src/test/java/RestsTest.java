@@ -38,6 +38,10 @@ public final class RestsTest {
         restsDue(x, 0, 1, 2, 1);
         x = Check.garden("T011C110C110");
         restsDue(x, 0, 1, 3, 1);
+        // MIGHTS 4 and 5
+        x = Check.garden("T011C940C950");
+        restsDue(x, 0, 1, 1, 10);
+        restsDue(x, 1, 0, 1, 1);
         Check.about(x, "nothing is changed", 10, 0);
     }
 
