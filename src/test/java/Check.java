@@ -3,6 +3,8 @@ final class Check {
     private static final int MOST_PRINTED = 40;
     private static int asked = 0;
     private static int wrong = 0;
+    /** The promise and the sentence that are being tested, where a test names them. */
+    private static String place = "";
 
     private Check() {
     }
@@ -10,8 +12,12 @@ final class Check {
     private static void isWrong(String what) {
         wrong++;
         if (wrong <= MOST_PRINTED) {
-            System.out.println(what);
+            System.out.println(place + what);
         }
+    }
+
+    static void at(String newPlace) {
+        place = newPlace;
     }
 
     static void due(String call, long got, long want) {
