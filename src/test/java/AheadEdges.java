@@ -239,6 +239,13 @@ final class AheadEdges {
                 Check.due("in " + n + " minutes", x.bestRule(n), leastStared(x, n));
             }
         }
+        // gardens in which turns without any order would be stared at least
+        for (String text : new String[] {"T331C023C821C751", "T342C930C470C470C692C562"}) {
+            x = Check.garden(text);
+            for (int n = 1; n <= 30; n++) {
+                Check.due("in " + n + " minutes, of four RULES", x.bestRule(n), leastStared(x, n));
+            }
+        }
         Sentence.of(18, "BAD: n.");
         for (int n : new int[] {-1, 0, 31, 60, Integer.MIN_VALUE, Integer.MAX_VALUE}) {
             Check.due("bestRule(" + n + ")", x.bestRule(n), BAD);

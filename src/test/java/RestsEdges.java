@@ -155,6 +155,12 @@ final class RestsEdges {
             chanceDue(x, 0, n, 10, n % 2 == 1 ? 0 : 1, 1);
             chanceDue(x, 1, n, 10, n % 2 == 1 ? 1 : 0, 1);
         }
+        // in turns of 1, without a worm: 0 in odd minutes, 1 in even ones
+        x = Check.garden("T111C990C990");
+        for (int n = 1; n <= 6; n++) {
+            chanceDue(x, 0, n, 0, n % 2, 1);
+            chanceDue(x, 1, n, 0, 1 - n % 2, 1);
+        }
         Check.due("n = 0", x.chance(0, 0, 5, true), BAD);
         Check.due("n = 7", x.chance(0, 7, 5, true), BAD);
     }
